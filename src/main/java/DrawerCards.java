@@ -398,10 +398,8 @@ public final class DrawerCards {
 
         /** The tape is empty then; what was read is in the shelf if there was no fault. */
         void readTape() {
-            first = 0;
             behind = 0;
             faultNumber = 0;
-            faultPlace = 0;
             // One round more than there are cards, so that the card too many is met.
             boolean goesOn = readLaw();
             for (int k = 0; goesOn && k <= MOST_CARDS; k++) goesOn = readCard() && behind < length;
