@@ -46,16 +46,21 @@ final class Checks {
     return x;
   }
 
-  /** The drawers with their cards in order, as 012|3||4. */
+  /** The drawers with their cards in order, as 012|3||4; by few calls, as an object is good for 512. */
   static String shelves(DrawerCards x) {
+    int drawers = x.count(1);
+    int cards = x.count(2);
+    char[][] at = new char[drawers][cards];
+    for (int c = 0; c < cards; c++) {
+      int d = x.card(c, 0);
+      int p = x.card(c, 1);
+      if (d < 0 || d >= drawers || p < 0 || p >= cards || at[d][p] != 0) return "card " + c + " at " + d + ", " + p;
+      at[d][p] = (char) ('0' + c);
+    }
     StringBuilder text = new StringBuilder();
-    for (int d = 0; d < x.count(1); d++) {
+    for (int d = 0; d < drawers; d++) {
       if (d > 0) text.append('|');
-      for (int p = 0; p < x.drawer(d, 0); p++) {
-        for (int c = 0; c < x.count(2); c++) {
-          if (x.card(c, 0) == d && x.card(c, 1) == p) text.append(c);
-        }
-      }
+      text.append(new String(at[d]).replaceAll("\0+$", "").replace('\0', '?'));
     }
     return text.toString();
   }
