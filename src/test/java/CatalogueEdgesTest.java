@@ -84,6 +84,30 @@ public final class CatalogueEdgesTest extends Edges {
     reads(EIGHT_CARDS, 8);
   }
 
+  @Promise(number = 7, says = "the end: how many bytes there are")
+  static void theFullTapeEndsTooEarly() {
+    String sevenCards = "f00,01;o01,02;w02,03;r03,04;b04,05;f05,06;o00,07;";
+    fails("c06,08;" + sevenCards + "w1,0", 1, 60);
+    fails("c06,08;" + sevenCards + "w01,", 1, 60);
+    fails("c6,08;" + sevenCards + "w01,0", 1, 60);
+    fails("1".repeat(60), 1, 0);
+    fails("c" + "1".repeat(59), 1, 1);
+    fails("c06,08;" + sevenCards + "w000", 1, 57);
+  }
+
+  @Promise(number = 7, says = "The tape, empty then, is read")
+  static void bytesOfAnEarlierTextAreGone() {
+    DrawerCards x = read("c2,1;f0,1;");
+    feed(x, "c2,1;f0,1");
+    due("the sign that stood behind does not help", x.catalogue(), -1000109);
+    feed(x, "c2,111");
+    due("three figures", x.catalogue(), -1000103);
+    feed(x, "c2,1");
+    due("the figures that stood behind do not count", x.catalogue(), -1000104);
+    feed(x, "c2,1;f0,1;");
+    due("a good one", x.catalogue(), 1);
+  }
+
   @Promise(number = 7, says = "nothing else, no blanks")
   static void everyByteThatCannotStandInThere() {
     String text = "c2,2;f0,1;o1,0;";
@@ -245,6 +269,8 @@ public final class CatalogueEdgesTest extends Edges {
     fails(EIGHT_CARDS + "f0,1;", 3, 45);
     fails(EIGHT_CARDS + "b9,9,", 3, 45);
     fails(EIGHT_CARDS + "o5,1;w5,1;f5,1;", 3, 45);
+    // Its letter is the last byte that the tape takes.
+    fails("c06,08;f00,01;o01,02;w02,03;r03,04;b4,05;f5,06;o0,07;w1,00;f", 3, 59);
   }
 
   @Promise(number = 7, says = "how many CARDS there are")

@@ -318,6 +318,14 @@ public final class ForetoldEdgesTest extends Edges {
     changesNothing(x, () -> x.rods(7, 1, 20, 0), () -> x.rods(7, 1, 20, 1));
   }
 
+  @Promise(number = 20, says = "the fewest CARDS to be put on rods now")
+  static void allButItselfMustBeHeld() {
+    // Card 4 goes from drawer 4 to drawer 1, where its dear is: each of the others would spoil it.
+    DrawerCards x = read("c5,3;w3,5;f1,4;w2,7;f3,1;f4,1;f2,1;w0,5;f1,5;");
+    due("how many", x.rods(4, 1, 3, 0), 7);
+    due("which", x.rods(4, 1, 3, 1), 255 - (1 << 4));
+  }
+
   @Promise(number = 20, says = "which (bits), of several the least")
   static void theLeastOfSeveral() {
     // Drawer 1 holds two more: cards 0 and 1 come into it ahead of card 2, unless one of them is held.
@@ -664,6 +672,18 @@ public final class ForetoldEdgesTest extends Edges {
         due("drawers by " + n + ", " + seed, x.drawn(n, seed, 0), want[0]);
         due("mates by " + n + ", " + seed, x.drawn(n, seed, 1), want[1]);
       }
+    }
+  }
+
+  @Promise(number = 24, says = "the CARD that is the rest of X by how many there are")
+  static void drawnOfOneCardAndOfEight() {
+    DrawerCards x = read("c6,1;r0,1;");
+    DrawerCards y = read("c6,8;r0,1;r1,0;r2,1;r3,2;r4,3;r5,4;r0,5;r1,6;");
+    for (int n = 1; n <= 6; n++) {
+      due("one card, " + n, x.drawn(n, 5, 0), drawnOnRods(6, 1, new int[] {0}, new int[] {1}, n, 5)[0]);
+      int[] want = drawnOnRods(6, 8, new int[] {0, 1, 2, 3, 4, 5, 0, 1}, new int[] {1, 0, 1, 2, 3, 4, 5, 6}, 10 * n, 5);
+      due("eight cards, " + 10 * n, y.drawn(10 * n, 5, 0), want[0]);
+      due("mates of eight, " + 10 * n, y.drawn(10 * n, 5, 1), want[1]);
     }
   }
 

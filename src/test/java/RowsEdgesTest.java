@@ -60,6 +60,14 @@ public final class RowsEdgesTest extends Edges {
     due("tape of the first yet", x.count(6), 1);
   }
 
+  @Promise(number = 1, says = "An object is used for at most 512 calls after it has been made")
+  static void theLastCallOfAnObject() {
+    // 11 calls of reading, 500 acts, and one.
+    DrawerCards x = read("c2,1;f0,1;");
+    for (int k = 0; k < 500; k++) due("act " + k, x.like(0, 1 + (k + 1) % 7), 1 + k % 7);
+    due("call 512", x.undo(), 23);
+  }
+
   @Promise(number = 2, says = "BAD: ROW")
   static void rowTooSmallOrTooLarge() {
     DrawerCards x = new DrawerCards();
