@@ -24,7 +24,9 @@ public final class LanguageTest {
     face();
     constants();
     classes();
-    words(args.length > 0 ? args[0] : "src/main/java/DrawerCards.java");
+    String source = Files.readString(Path.of(args.length > 0 ? args[0] : "src/main/java/DrawerCards.java"));
+    words(source);
+    lengths(source);
     Checks.end("LanguageTest");
   }
 
@@ -72,10 +74,13 @@ public final class LanguageTest {
     all.add(DrawerCards.class);
     Checks.tell(all.size() <= 12, all.size() + " classes");
     for (Class<?> c : all) {
+      int held = 0;
       for (Field f : c.getDeclaredFields()) {
         boolean fixed = !Modifier.isStatic(f.getModifiers()) || Modifier.isFinal(f.getModifiers());
         Checks.tell(fixed, f + " is static and not final");
+        if (!Modifier.isStatic(f.getModifiers())) held++;
       }
+      Checks.tell(held <= 20, c + " has " + held + " fields");
       for (Method m : c.getDeclaredMethods()) {
         Checks.tell(m.getParameterCount() <= 7, m + " takes too much");
         boolean own = c == DrawerCards.class && Modifier.isPublic(m.getModifiers());
@@ -84,8 +89,7 @@ public final class LanguageTest {
     }
   }
 
-  private static void words(String path) throws IOException {
-    String source = Files.readString(Path.of(path));
+  private static void words(String source) {
     String bare = source.replaceAll("(?s)/\\*.*?\\*/", " ").replaceAll("//[^\n]*", " ").replaceAll("'.'", " ");
     String[] barred = {"throw", "throws", "try", "catch", "synchronized", "assert", "import", "package", "record",
       "yield", "protected", "volatile", "transient", "native", "equals", "hashCode", "toString"};
@@ -101,5 +105,17 @@ public final class LanguageTest {
     while (m.find()) used.add(m.group());
     used.removeAll(Set.of("Math.max", "Math.min", "Integer.bitCount", "System.arraycopy"));
     Checks.tell(used.isEmpty(), "the source uses " + used);
+  }
+
+  /** A method begins and ends at the same indentation: that of the class's own, or of those of a class inside it. */
+  private static void lengths(String source) {
+    Matcher m = Pattern.compile("(?m)^((?: {4}){1,2})(?! )[^\n;=]*\\([^\n;]*\\) \\{\n((?s:.*?)\n)??\\1\\}$").matcher(source);
+    int methods = 0;
+    while (m.find()) {
+      methods++;
+      long lines = m.group().lines().count();
+      Checks.tell(lines <= 60, lines + " lines: " + m.group().lines().findFirst().orElse(""));
+    }
+    Checks.tell(methods > 100, "only " + methods + " methods are seen");
   }
 }

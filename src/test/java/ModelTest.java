@@ -1,14 +1,21 @@
 import java.util.Random;
 
-/** All promises: runs of drawn calls (always the same ones) on the class and on the model of it, answer by answer. */
+/**
+ * All promises: runs of drawn calls (always the same ones) on the class and on the model of it, answer by answer. An
+ * object is used for 512 calls at most, as what it answers then is free.
+ */
 public final class ModelTest {
-  private static final int RUNS = 1500;
-  private static final int CALLS = 500;
+  private static final int RUNS = 6000;
+  private static final int CALLS = 512;
+  // No step (a text onto the tape is the longest), with the glance behind it, makes more calls than this.
+  private static final int MOST_OF_A_STEP = 60;
+  private static final int WHOLE_PICTURE = 84;
 
   private final Random dice;
   private final DrawerCards x = new DrawerCards();
   private final Model y = new Model();
   private final StringBuilder told = new StringBuilder();
+  private int made = 0;
   private boolean wrong = false;
 
   private ModelTest(long seed) {
@@ -29,14 +36,15 @@ public final class ModelTest {
   }
 
   private boolean goes() {
-    int calls = 0;
-    while (calls < CALLS && !wrong) {
-      if (dice.nextInt(12) == 0) calls += text();
-      else {
-        call();
-        calls++;
-      }
-      state();
+    while (made <= CALLS - MOST_OF_A_STEP - WHOLE_PICTURE && !wrong) {
+      if (dice.nextInt(12) == 0) text();
+      else call();
+      glance();
+    }
+    picture();
+    if (made > CALLS) {
+      told.append(" made ").append(made).append(" calls");
+      wrong = true;
     }
     return !wrong;
   }
@@ -60,6 +68,7 @@ public final class ModelTest {
   }
 
   private void same(String call, int got, int want) {
+    made++;
     told.append(' ').append(call).append('=').append(got);
     if (got != want) {
       told.append(" due ").append(want);
@@ -67,17 +76,17 @@ public final class ModelTest {
     }
   }
 
-  /** As the above, but told only if it is wrong: there are many of these behind each call. */
+  /** As the above, but told only if it is wrong: there are many of these. */
   private void sameYet(String call, int what, int got, int want) {
     if (got != want) same(call + " " + what, got, want);
+    else made++;
   }
 
-  private int text() {
+  private void text() {
     String s = catalogueText();
     for (int i = 0; i < s.length(); i++) same("feed " + s.charAt(i), x.feed(s.charAt(i)), y.feed(s.charAt(i)));
     same("catalogue", x.catalogue(), y.catalogue());
     same("fault", x.fault(), y.fault());
-    return s.length() + 2;
   }
 
   private String catalogueText() {
@@ -196,7 +205,21 @@ public final class ModelTest {
     same(call, x.fits(c, r, i, n, what), y.fits(c, r, i, n, what));
   }
 
-  private void state() {
+  /** Some of what can be seen, drawn; the whole would use the calls up. */
+  private void glance() {
+    int c = dice.nextInt(8);
+    int d = dice.nextInt(6);
+    int i = dice.nextInt(7);
+    int what = dice.nextInt(8);
+    sameYet("count", what, x.count(what), y.count(what));
+    sameYet("count", 7, x.count(7), y.count(7));
+    sameYet("status", 0, x.status(), y.status());
+    sameYet("trace", i, x.trace(i), y.trace(i));
+    sameYet("card " + c, what % 4, x.card(c, what % 4), y.card(c, what % 4));
+    sameYet("drawer " + d, what % 3, x.drawer(d, what % 3), y.drawer(d, what % 3));
+  }
+
+  private void picture() {
     for (int what = 0; what <= 8; what++) sameYet("count", what, x.count(what), y.count(what));
     sameYet("status", 0, x.status(), y.status());
     sameYet("fault", 0, x.fault(), y.fault());
